@@ -745,16 +745,24 @@ public final class SlipwayPlan {
 
         void sortTasks() {
             clearMarks();
-            int place = 0;
-            for (int round = 0; round < taskCount && place < taskCount; round++) {
-                for (int task = 0; task < taskCount; task++) {
-                    if (!marks[task] && isOpen(task, marks)) {
-                        marks[task] = true;
-                        sorted[place] = task;
-                        place++;
-                    }
+            for (int place = 0; place < taskCount; place++) {
+                int task = firstOpen();
+                if (task < 0) {
+                    return;
+                }
+                marks[task] = true;
+                sorted[place] = task;
+            }
+        }
+
+        /** The first task without a mark, to which links go only from marked ones; -1 without one. */
+        int firstOpen() {
+            for (int task = 0; task < taskCount; task++) {
+                if (!marks[task] && isOpen(task, marks)) {
+                    return task;
                 }
             }
+            return -1;
         }
 
         void clearMarks() {
@@ -954,11 +962,13 @@ public final class SlipwayPlan {
                     putIn(number, task.doneBegin, task.doneEnd);
                 }
             }
-            int next = choose(network, rule);
-            while (next >= 0 && count < project.taskCount) {
+            for (int step = 0; step < project.taskCount; step++) {
+                int next = choose(network, rule);
+                if (next < 0) {
+                    return;
+                }
                 int begin = firstWithCrews(next, project.firstDay(next, plan));
                 putIn(next, begin, project.calendarOf(next).endOf(begin, project.tasks[next].length));
-                next = choose(network, rule);
             }
         }
 

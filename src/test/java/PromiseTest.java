@@ -1,3 +1,6 @@
+import java.util.function.Consumer;
+import java.util.function.ToLongFunction;
+
 /** For each promise: ordinary inputs, the edges that the document names, and wrong inputs; reckoned by hand. */
 public final class PromiseTest {
     private static final long EMPTY = 5418896322166811991L;
@@ -84,6 +87,8 @@ public final class PromiseTest {
         couldGrow();
         digest();
         changesNothing();
+        aFullObject();
+        asOfNow();
     }
 
     /** A plan of tasks with these lengths, all in calendar 0, on which one works each day. */
@@ -166,8 +171,11 @@ public final class PromiseTest {
         Check.same("taken back again", x.setFree(0, 0, false), false);
         Check.same("works", x.works(0, 0), true);
         Check.same("early begin", x.earlyBegin(0), 0);
+        x.setWeek(3, 127);
         Check.same("day 999", x.setFree(3, 999, true), false);
+        Check.same("works on 998", x.works(3, 998), true);
         Check.same("works on 999", x.works(3, 999), false);
+        Check.same("works on 1000", x.works(3, 1000), true);
         Check.argument("day -1", () -> x.setFree(0, -1, true));
         Check.argument("day 1000", () -> x.setFree(0, 1000, true));
         Check.argument("day 1000, not free", () -> x.setFree(0, 1000, false));
@@ -569,6 +577,14 @@ public final class PromiseTest {
         Check.same("and begins", x.earlyBegin(3), 2);
         x.setTerms(3, 0, 4);
         Check.same("first day is later", x.earlyEnd(3), 7);
+        x.setTerms(3, 0, 0);
+        x.setLength(3, 5);
+        Check.same("long enough to begin at once", x.earlyBegin(3), 0);
+        SlipwayPlan y = daily(0, 0, 0);
+        y.link(0, 1, 0, 0);
+        y.link(1, 2, 1, 0);
+        Check.same("without lengths all at once", y.earlyEnd(1), 0);
+        Check.same("without lengths all at once", y.earlyEnd(2), 0);
     }
 
     private static void lateBegin() {
@@ -583,6 +599,13 @@ public final class PromiseTest {
         Check.same("beside", x.lateBegin(3), 5);
         Check.same("together", x.lateBegin(4), 7);
         Check.same("without a length on the last day", x.lateBegin(5), 10);
+        x.link(5, 2, 1, 1);
+        Check.same("without a length, beside", x.lateBegin(5), 6);
+        x.setTerms(5, 0, 4);
+        x.drop(3);
+        x.link(5, 2, 2, 1);
+        Check.same("without a length, together", x.lateBegin(5), 9);
+        x.drop(3);
         x.setWeek(1, 31);
         x.addTask(1, 1);
         Check.same("on a day worked on", x.lateBegin(6), 9);
@@ -683,6 +706,9 @@ public final class PromiseTest {
         int[] then = {9, 9, 9, 13, 13, 0, 0, 13, 0};
         for (int day = 0; day < then.length; day++) {
             Check.same("with one that is done, on " + day, x.wanted(2, day), then[day]);
+        }
+        for (int day = 4990; day < 5010; day++) {
+            Check.same("behind all plans", x.wanted(2, day), 0);
         }
         Check.same("on 9999", x.wanted(2, 9999), 0);
         Check.argument("day -1", () -> x.wanted(0, -1));
@@ -889,6 +915,9 @@ public final class PromiseTest {
         Check.same("of another crew", x.used(1, 0), 0);
         x.setWeek(0, 127 - 4);
         Check.same("not on days not worked on", x.used(0, 2), 0);
+        for (int day = 4990; day < 5010; day++) {
+            Check.same("behind all plans", x.used(0, day), 0);
+        }
         Check.same("on 9999", x.used(0, 9999), 0);
         Check.argument("day -1", () -> x.used(0, -1));
         Check.argument("day 10000", () -> x.used(0, 10000));
@@ -937,6 +966,10 @@ public final class PromiseTest {
         y.link(1, 0, 0, 1);
         y.setTerms(0, 0, 5);
         Check.same("both are days to begin on", y.holds(0), 0);
+        SlipwayPlan z = daily(1, 0);
+        Check.same("nothing, without a length", z.holds(1), 0);
+        z.link(0, 1, 0, 0);
+        Check.same("a link, without a length", z.holds(1), 1);
         Check.index("task -1", () -> y.holds(-1));
         Check.index("task 2", () -> y.holds(2));
     }
@@ -950,6 +983,8 @@ public final class PromiseTest {
         x.link(0, 2, 0, 0);
         x.link(0, 2, 1, 4);
         Check.same("the smallest that alone would do", x.heldBy(2), 1);
+        x.setLength(1, 3);
+        Check.same("not one that is a day short", x.heldBy(2), 1);
         x.link(3, 2, 2, 20);
         Check.same("by the end", x.heldBy(2), 3);
         x.setCrew(0, 1, 0);
@@ -1179,6 +1214,13 @@ public final class PromiseTest {
         x.setLength(2, 3);
         x.setLength(0, 1);
         Check.same("by the rule of now", x.levelledWith(0, 2), 4);
+        SlipwayPlan y = daily(2, 2, 6);
+        y.setCrew(0, 1, 0);
+        y.setNeed(0, 0, 1);
+        y.setNeed(1, 0, 1);
+        Check.same("task 0 comes ahead of task 1", y.orderAt(1), 0);
+        y.link(1, 2, 0, 0);
+        Check.same("task 1 comes first by its late begin of now", y.levelledWith(0, 1), 8);
         Check.argument("size -1", () -> x.levelledWith(0, -1));
         Check.argument("size 10", () -> x.levelledWith(0, 10));
         Check.index("crew -1", () -> x.levelledWith(-1, 1));
@@ -1233,6 +1275,7 @@ public final class PromiseTest {
         Check.same("the room: lasts 9, 8, 9, 9", contended(3, 2, 3, 1, 3, 0).bestRule(), 1);
         Check.same("the rank: lasts 6, 6, 5, 6", contended(2, 3, 0, 0, 1, 0).bestRule(), 2);
         SlipwayPlan y = contended(1, 3, 3, 1, 0, 0);
+        Check.same("all the same", y.bestRule(), 0);
         y.link(0, 2, 0, 0);
         Check.same("the length: lasts 8, 8, 8, 7", y.bestRule(), 3);
         Check.same("it is not set", y.levelledLast(), 8);
@@ -1329,5 +1372,131 @@ public final class PromiseTest {
         Check.same("digest", x.digest(), before);
         x.setRule(0);
         Check.same("digest, reckoned anew", x.digest(), before);
+    }
+
+    /** With 24 tasks and 40 links no call leaves its rows. */
+    private static void aFullObject() {
+        Check.part("24 tasks and 40 links");
+        SlipwayPlan x = new SlipwayPlan();
+        x.setWeek(0, 127);
+        for (int task = 0; task < 24; task++) {
+            x.addTask(1, 0);
+            x.setNeed(task, 0, 5);
+        }
+        x.setCrew(0, 9, 1);
+        for (int task = 1; task < 24; task++) {
+            x.link(task - 1, task, 0, 0);
+        }
+        while (x.links() < 40) {
+            x.link(0, 23, 0, 0);
+        }
+        Check.same("last", x.last(), 24);
+        Check.same("levelled last", x.levelledLast(), 24);
+        Check.same("kept", x.keep(), 24);
+        Check.same("worth", x.worth(), 120);
+        Check.same("planned", x.planned(24), 120);
+        x.finish(23, 0, 1);
+        Check.same("earned", x.earned(), 5);
+        Check.same("used", x.used(0, 0), 5);
+        Check.same("the first one waits", x.begin(0), 1);
+        Check.same("order", x.orderAt(0), 23);
+        Check.same("held by", x.heldBy(22), 21);
+        Check.same("without a link", x.levelledWithout(39), 24);
+        Check.same("the digest twice", x.digest(), x.digest());
+    }
+
+    /** Each call that tells something is seen by the next one that asks, also if that asked ahead of it. */
+    private static void asOfNow() {
+        tellsAtOnce("setWeek", x -> x.setWeek(0, 31), x -> x.earlyBegin(2));
+        tellsAtOnce("setFree", x -> x.setFree(0, 5, true), x -> x.earlyBegin(2));
+        tellsAtOnce("setCrew", x -> x.setCrew(0, 2, 5), x -> x.begin(1));
+        tellsAtOnce("addTask", x -> x.addTask(20, 1), x -> x.last());
+        tellsAtOnce("setLength", x -> x.setLength(2, 9), x -> x.last());
+        tellsAtOnce("setTerms", x -> x.setTerms(2, 0, 30), x -> x.last());
+        tellsAtOnce("setNeed", x -> x.setNeed(0, 0, 0), x -> x.begin(1));
+        tellsAtOnce("link", x -> x.link(0, 1, 0, 9), x -> x.earlyBegin(1));
+        tellsAtOnce("drop", x -> x.drop(0), x -> x.earlyBegin(2));
+        tellsAtOnce("finish", x -> x.finish(0, 30, 40), x -> x.end(0));
+        tellsAtOnce("reopen", x -> x.reopen(3), x -> x.begin(3));
+        tellsAtOnce("setRule", x -> x.setRule(3), x -> x.begin(1));
+        asksAnew("earlyBegin", x -> x.earlyBegin(1));
+        asksAnew("earlyEnd", x -> x.earlyEnd(1));
+        asksAnew("lateBegin", x -> x.lateBegin(1));
+        asksAnew("lateEnd", x -> x.lateEnd(0));
+        asksAnew("room", x -> x.room(0));
+        asksAnew("last", x -> x.last());
+        asksAnew("tight", x -> x.tight());
+        asksAnew("wanted", x -> x.wanted(0, 8));
+        asksAnew("overloaded", x -> x.overloaded(0));
+        asksAnew("begin", x -> x.begin(1));
+        asksAnew("end", x -> x.end(1));
+        asksAnew("levelledLast", x -> x.levelledLast());
+        asksAnew("stuck", x -> x.stuck());
+        asksAnew("orderAt", x -> x.orderAt(3));
+        asksAnew("used", x -> x.used(0, 8));
+        asksAnew("peak", x -> x.peak(0));
+        asksAnew("holds", x -> x.holds(1));
+        asksAnew("heldBy", x -> x.heldBy(1));
+        asksAnew("idle", x -> x.idle(1));
+        asksAnew("behind", x -> x.behind(0));
+        asksAnew("planned", x -> x.keep() + x.planned(3));
+        asksAnew("lastWith", x -> x.lastWith(2, 3));
+        asksAnew("levelledWith", x -> x.levelledWith(3, 1));
+        asksAnew("levelledWithout", x -> x.levelledWithout(0));
+        asksAnew("couldGrow", x -> x.couldGrow(2));
+        asksAnew("digest", x -> x.digest());
+    }
+
+    private static SlipwayPlan busy() {
+        SlipwayPlan x = crowded();
+        x.link(0, 2, 0, 3);
+        x.addTask(2, 0);
+        x.finish(3, 9, 12);
+        x.keep();
+        return x;
+    }
+
+    /** Longer, later and more of it, so that each answer is another one. */
+    private static void change(SlipwayPlan x) {
+        x.setLength(0, 6);
+        x.setLength(1, 9);
+        x.setTerms(1, 9, 1);
+        x.link(2, 1, 0, 4);
+        x.setNeed(2, 0, 2);
+        x.finish(3, 2, 9);
+        x.setNeed(3, 0, 3);
+        x.setLength(2, 2);
+        x.setTerms(0, 0, 1);
+        x.setCrew(0, 2, 5);
+        x.addTask(8, 0);
+        x.setNeed(4, 0, 1);
+        x.addTask(5, 0);
+        x.setNeed(5, 0, 9);
+        x.setTerms(5, 0, 12);
+    }
+
+    private static void tellsAtOnce(String call, Consumer<SlipwayPlan> tell, ToLongFunction<SlipwayPlan> ask) {
+        Check.part(call + ", as of now");
+        SlipwayPlan x = busy();
+        long before = ask.applyAsLong(x);
+        tell.accept(x);
+        SlipwayPlan y = busy();
+        tell.accept(y);
+        y.setRule(y.setRule(0));
+        Check.same("the answer", ask.applyAsLong(x), ask.applyAsLong(y));
+        Check.holds("the answer is another one", ask.applyAsLong(x) != before);
+    }
+
+    private static void asksAnew(String call, ToLongFunction<SlipwayPlan> ask) {
+        Check.part(call + ", as of now");
+        SlipwayPlan x = busy();
+        long before = ask.applyAsLong(x);
+        change(x);
+        long got = ask.applyAsLong(x);
+        SlipwayPlan y = busy();
+        change(y);
+        y.last();
+        Check.same("the answer", got, ask.applyAsLong(y));
+        Check.holds("the answer " + got + " is another one", got != before);
     }
 }
