@@ -45,6 +45,7 @@ public final class PromiseTest {
         earlyEnd();
         earlyTogether();
         lateBegin();
+        lateBeginOfSeveralLinks();
         lateEnd();
         room();
         last();
@@ -66,6 +67,8 @@ public final class PromiseTest {
         peak();
         holds();
         heldBy();
+        heldByLinksToItAlone();
+        heldByOverCalendars();
         idle();
     }
 
@@ -75,6 +78,7 @@ public final class PromiseTest {
         planned();
         plannedAsKept();
         earned();
+        earnedOfKeptOnesAlone();
         worth();
         pace();
     }
@@ -84,11 +88,13 @@ public final class PromiseTest {
         levelledWith();
         levelledWithout();
         bestRule();
+        bestRuleOfDifferentLasts();
         couldGrow();
         digest();
         changesNothing();
         aFullObject();
         asOfNow();
+        asTheReadmeTells();
     }
 
     /** A plan of tasks with these lengths, all in calendar 0, on which one works each day. */
@@ -622,6 +628,26 @@ public final class PromiseTest {
         Check.index("task 7", () -> x.lateBegin(7));
     }
 
+    /** Task 0, of 2 days, is ahead of task 1, which begins on 6 at the latest, and of task 2, which does on 9. */
+    private static void lateBeginOfSeveralLinks() {
+        Check.part("promise 19, lateBegin, of several links");
+        int[] strictFirst = {1, 2};
+        int[] strictLast = {2, 1};
+        for (int[] goals : new int[][] {strictFirst, strictLast}) {
+            int[] due = {4, 6, 6};
+            for (int kind = 0; kind < 3; kind++) {
+                SlipwayPlan x = daily(2, 4, 1, 10);
+                for (int goal : goals) {
+                    // both end on 10 at the latest, so that it is the lag that tells them apart
+                    x.link(0, goal, kind, kind == 2 && goal == 1 ? 2 : 0);
+                }
+                Check.same("late begin of task 1", x.lateBegin(1), 6);
+                Check.same("late begin of task 2", x.lateBegin(2), 9);
+                Check.same("kind " + kind + ", first to " + goals[0], x.lateBegin(0), due[kind]);
+            }
+        }
+    }
+
     private static void lateEnd() {
         Check.part("promise 20, lateEnd");
         SlipwayPlan x = new SlipwayPlan();
@@ -1007,6 +1033,39 @@ public final class PromiseTest {
         Check.index("task 2", () -> y.heldBy(2));
     }
 
+    /** Links to others, on days that are far enough behind, come first by their numbers. */
+    private static void heldByLinksToItAlone() {
+        Check.part("promise 34, heldBy, links to it alone");
+        SlipwayPlan x = daily(1, 1, 1);
+        x.link(1, 2, 0, 0);
+        x.link(0, 1, 0, 0);
+        Check.same("not by one from it", x.heldBy(1), 1);
+        Check.same("by that one", x.heldBy(2), 0);
+        SlipwayPlan y = daily(1, 1, 1);
+        y.link(1, 0, 0, 0);
+        y.link(2, 1, 0, 0);
+        Check.same("not by one from it, to a smaller number", y.heldBy(1), 1);
+        Check.same("by that one", y.heldBy(0), 0);
+    }
+
+    private static void heldByOverCalendars() {
+        Check.part("promise 34, heldBy, over calendars");
+        SlipwayPlan x = daily(5, 6, 7);
+        x.addTask(1, 1);
+        x.link(0, 3, 0, 0);
+        x.link(2, 3, 0, 0);
+        Check.same("it begins behind the week's end", x.begin(3), 7);
+        Check.same("by its own calendar day 5 is as day 7", x.heldBy(3), 0);
+        x.setLength(0, 4);
+        Check.same("on day 4 it could begin", x.heldBy(3), 1);
+        x.addTask(1, 0);
+        x.setLength(3, 5);
+        x.link(3, 4, 0, 1);
+        x.link(3, 4, 0, 2);
+        Check.same("two days behind the end of task 3", x.begin(4), 14);
+        Check.same("its own calendar works on day 13, too", x.heldBy(4), 3);
+    }
+
     private static void idle() {
         Check.part("promise 35, idle");
         SlipwayPlan x = daily(3, 2);
@@ -1138,6 +1197,22 @@ public final class PromiseTest {
         x.setNeed(2, 0, 1);
         x.finish(2, 0, 3);
         Check.same("not one that came later", x.earned(), 40);
+    }
+
+    private static void earnedOfKeptOnesAlone() {
+        Check.part("promise 39, earned, not of those that were stuck");
+        SlipwayPlan x = daily(3, 2);
+        x.setCrew(0, 1, 10);
+        x.setNeed(0, 0, 2);
+        x.setNeed(1, 0, 1);
+        Check.same("one is stuck", x.keep(), 1);
+        x.finish(0, 0, 3);
+        Check.same("it was not kept", x.earned(), 0);
+        Check.same("nor is any of it planned", x.planned(9999), 20);
+        x.finish(1, 0, 2);
+        Check.same("the other one was", x.earned(), 20);
+        Check.same("both are in it now", x.keep(), 2);
+        Check.same("both are earned", x.earned(), 80);
     }
 
     private static void worth() {
@@ -1283,6 +1358,38 @@ public final class PromiseTest {
         Check.same("it is least then", y.levelledLast(), 7);
     }
 
+    /** Behind each of the tasks 0 to 2, which need the one hand, the plan goes on for 1, 6 and 3 days. */
+    private static void bestRuleOfDifferentLasts() {
+        Check.part("promise 45, bestRule, of different lasts");
+        SlipwayPlan x = daily(4, 2, 1, 0, 0, 0);
+        x.setCrew(0, 1, 0);
+        int[] further = {1, 6, 3};
+        for (int task = 0; task < 3; task++) {
+            x.setNeed(task, 0, 1);
+            x.link(task, task + 3, 0, further[task]);
+        }
+        ranked(x, 9, 1, 5);
+        int[] due = {10, 10, 13, 12};
+        for (int rule = 3; rule >= 0; rule--) {
+            x.setRule(rule);
+            Check.same("last by rule " + rule, x.levelledLast(), due[rule]);
+            Check.same("the first two are least; by rule " + rule, x.bestRule(), 0);
+        }
+        ranked(x, 1, 5, 9);
+        for (int rule = 0; rule < 4; rule++) {
+            x.setRule(rule);
+            Check.same("the rank is less, 9; by rule " + rule, x.bestRule(), 2);
+        }
+        ranked(x, 5, 9, 1);
+        Check.same("the rank is as they are, 10", x.bestRule(), 0);
+    }
+
+    private static void ranked(SlipwayPlan x, int... ranks) {
+        for (int task = 0; task < ranks.length; task++) {
+            x.setTerms(task, ranks[task], 0);
+        }
+    }
+
     /** Three tasks with their lengths and then their first days; each needs the one hand of crew 0. */
     private static SlipwayPlan contended(int... told) {
         SlipwayPlan x = daily(told[0], told[1], told[2]);
@@ -1321,6 +1428,7 @@ public final class PromiseTest {
         Check.same("last", x.last(), 16);
         Check.same("less with the first day more", x.lastWith(1, 3), 15);
         Check.same("so none", x.couldGrow(1), 0);
+        Check.same("the same again with 16", x.lastWith(1, 16), 16);
     }
 
     private static void digest() {
@@ -1498,5 +1606,22 @@ public final class PromiseTest {
         y.last();
         Check.same("the answer", got, ask.applyAsLong(y));
         Check.holds("the answer " + got + " is another one", got != before);
+    }
+
+    private static void asTheReadmeTells() {
+        Check.part("the example in README.md");
+        SlipwayPlan plan = new SlipwayPlan();
+        int hull = plan.addTask(5, 0);
+        int deck = plan.addTask(3, 0);
+        plan.link(hull, deck, 0, 1);
+        plan.setCrew(2, 4, 30);
+        plan.setNeed(hull, 2, 3);
+        Check.same("last", plan.last(), 10);
+        Check.same("begin", plan.begin(deck), 7);
+        Check.same("holds", plan.holds(deck), 1);
+        plan.keep();
+        plan.finish(hull, 0, 8);
+        Check.same("behind", plan.behind(deck), 2);
+        Check.same("lastWith", plan.lastWith(deck, 6), 17);
     }
 }
